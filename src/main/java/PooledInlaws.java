@@ -826,7 +826,6 @@ public final class PooledInlaws {
                 return NOBODY;
             }
             int one = inlaws;
-            // An undone one may have been in this place before.
             kindOf[one] = kind;
             warmOf[one] = 40;
             satOf[one] = 0;

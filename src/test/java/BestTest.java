@@ -21,6 +21,7 @@ public final class BestTest {
                 check.due("nothing changes", Check.all(x), before);
             }
         }
+        lastOnes(check);
         edges(check);
         refuse(check);
         check.end();
@@ -113,6 +114,23 @@ public final class BestTest {
             }
             check.due("lonely(" + m + ")", x.lonely(m), best);
         }
+    }
+
+    /** Where the best is the very last that may be. */
+    private static void lastOnes(Check check) {
+        String text = "father warm 38; blesser warm 76; tartar warm 46; couple 9; couple 7; fire 19";
+        warm(check, Check.of(text), text, 10);
+        check.due("the least WARM is 99", Check.of(text).warm(2, 10, 10), 99);
+        text = "mother warm 56; uncle warm 93; blesser warm 5 sat; father warm 19; couple 3; couple 7; fire 12";
+        loud(check, Check.of(text), text, 15);
+        check.due("the best LOUD is 9", Check.of(text).loud(0, 15), 9);
+        text = "blesser warm 23; mother warm 91; father warm 18 sat; couple 6; fire 14";
+        stoke(check, Check.of(text), text, 6);
+        check.due("the best FIRE is 20", Check.of(text).stoke(6), 20);
+        PooledInlaws x = Check.of("uncle sat;uncle sat;uncle sat;uncle sat;uncle sat;uncle sat;uncle sat;uncle");
+        x.set(7, 3, 1);
+        check.due("the last of 8 is lonely", x.lonely(100), 7);
+        check.due("the last of 8 is to be sat on", x.sit(60), 7);
     }
 
     private static void edges(Check check) {

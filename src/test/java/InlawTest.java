@@ -83,6 +83,11 @@ public final class InlawTest {
             check.due("CHARMS of " + k + " as LAST", x.with(k, 0, 0), CHARMS[k][0] + (k == 4 ? 9 : 0));
             x.give(0, 2, -1);
         }
+        int[] fires = {0, 4, 5, 9, 10, 14, 15, 19, 20};
+        for (int f = 0; f < fires.length; f++) {
+            x.fire(fires[f]);
+            check.due("CHARMS of a BLESSER with FIRE " + fires[f], x.with(5, 0, 0), 5 + f / 2);
+        }
         x.set(4, 1, 59);
         check.due("DOES of a TARTAR of 59", x.with(4, 0, 1), 96);
         x.set(4, 1, 60);

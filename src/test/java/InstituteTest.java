@@ -42,6 +42,11 @@ public final class InstituteTest {
             check.due("now(0)", x.now(0), sunday);
             check.due("now(2) on SUNDAY " + sunday, x.now(2), sunday % 3);
         }
+        for (int i = 3; i < 8; i++) {
+            x.inlaw(0);
+            x.set(i, 2, 1);
+        }
+        check.due("now(3) of 8", x.now(3), 254);
         check.due("now(-1)", x.now(-1), Check.BEYOND);
         check.due("now(6)", x.now(6), Check.BEYOND);
     }

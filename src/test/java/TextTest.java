@@ -5,6 +5,7 @@ public final class TextTest {
         feed(check);
         texts(check);
         faults(check);
+        ends(check);
         room(check);
         check.end();
     }
@@ -115,6 +116,13 @@ public final class TextTest {
         fault(check, "fire -5", 5);
         fault(check, "fire 5;inlaw;couple 5;sit 0;fire 6;mother warm 10 sad", 50);
         fault(check, "fire \u00b5", 5);
+        fault(check, "xire 5", 0);
+        fault(check, "inlaw xarm 5", 6);
+        fault(check, "inlawz", 0);
+        fault(check, "inlaw`", 5);
+        fault(check, "inlaw{", 5);
+        fault(check, "fire 5/", 6);
+        fault(check, "fire 5:", 6);
     }
 
     private static void fault(Check check, String text, int place) {
@@ -123,6 +131,31 @@ public final class TextTest {
         check.due("'" + text + "'", Check.tell(x, text), -1 - place);
         check.due("nothing changes by '" + text + "'", Check.all(x), before);
         check.due("no finding", x.status(-1), 0);
+    }
+
+    /** What stood on THE TAPE before, or would stand behind its last place, is none of it. */
+    private static void ends(Check check) {
+        PooledInlaws x = new PooledInlaws();
+        Check.feed(x, "inlaws 55 ; ;");
+        x.wipe();
+        check.due("a WORD at the end", Check.tell(x, "inlaw"), 1);
+        Check.feed(x, "fire 100  fire");
+        x.wipe();
+        check.due("a NUMBER at the end", Check.tell(x, "fire 10"), 1);
+        Check.feed(x, "fire 1 ;;;");
+        x.wipe();
+        check.due("a blank at the end", Check.tell(x, "fire 1 "), 1);
+        String blanks = " ".repeat(120);
+        check.due("120 blanks", Check.tell(x, blanks), -121);
+        check.due("120 bytes, the last of a WORD", Check.tell(x, blanks.substring(5) + "uncle"), 1);
+        check.due("120 bytes, the last of a NUMBER", Check.tell(x, blanks.substring(6) + "fire17"), 1);
+        check.due("120 bytes, the last a SIGN", Check.tell(x, blanks.substring(6) + "uncle;"), -121);
+        check.due("120 bytes, the last a blank", Check.tell(x, "uncle" + blanks.substring(5)), 1);
+        check.due("120 bytes, the last no TOKEN", Check.tell(x, blanks.substring(6) + "uncle?"), -120);
+        check.due("120 letters", Check.tell(x, blanks.replace(' ', 'a')), -1);
+        check.due("120 digits", Check.tell(x, "fire" + blanks.substring(4).replace(' ', '9')), -5);
+        check.due("20 ITEMS", Check.tell(x, "fire 1".concat(";fire1".repeat(19))), 20);
+        check.due("at the end", Check.all(x), "0 1 -1 0 10000 120 / 0 40 0 0 0 / 3 40 0 0 0 / 3 40 0 0 0 # 0");
     }
 
     private static void room(Check check) {

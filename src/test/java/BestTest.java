@@ -150,6 +150,10 @@ public final class BestTest {
         x.give(1, 1, -999);
         check.due("sit, all being unwell", x.sit(1), 0);
         check.due("loud, being unwell", x.loud(1, 60), 0);
+        // From LOUD 4 on the FATHER is had, who DOES 2, and then it goes home; below it is held at -999.
+        x = Check.of("father warm 20; uncle; couple 0; couple 5; couple 5; fire 9");
+        x.give(0, 1, -999);
+        check.due("loud, being hardly better", x.loud(0, 2), 4);
         // HAD counts from before, and is held: all KINDS come to the same.
         x = Check.of("uncle; blesser; couple 5");
         x.set(0, 4, 9999);

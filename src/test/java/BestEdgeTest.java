@@ -15,7 +15,8 @@ public final class BestEdgeTest {
     }
 
     static void promise19_beyondNoSuchOne(Edges e) {
-        e.some().play("kind(2,1) kind(3,1)=BEYOND kind(-1,1)=BEYOND kind(2147483647,1)=BEYOND kind(-2147483648,1)=BEYOND");
+        e.some().play("kind(2,1) kind(3,1)=BEYOND kind(-1,1)=BEYOND kind(2147483647,1)=BEYOND "
+            + "kind(-2147483648,1)=BEYOND");
         e.told("couple 5").play("kind(0,1)=BEYOND");
         e.crowd(8, 0).play("kind(7,1)==0 kind(8,1)=BEYOND");
     }
@@ -55,7 +56,8 @@ public final class BestEdgeTest {
     static void promise19_overAllTheSundays(Edges e) {
         // The TARTAR, LAST, CHARMS by 16 for 5 SUNDAYS, then by less: a BLESSER is had from the 6th on, a FATHER from
         // the 26th.
-        e.told("tartar warm 99; inlaw warm 80; couple 9 had 0; fire 20").play("kind(1,5)==0 kind(1,6)==5 kind(1,60)==5");
+        e.told("tartar warm 99; inlaw warm 80; couple 9 had 0; fire 20").play("kind(1,5)==0 kind(1,6)==5 "
+            + "kind(1,60)==5");
     }
 
     // ---- warm
@@ -87,8 +89,8 @@ public final class BestEdgeTest {
     static void promise20_warm99IsTheLast(Edges e) {
         // The FATHER CHARMS by 12 and stays; the TARTAR, LAST, by WARM by 10 and 7, and cools by 1 each SUNDAY it is
         // had: so it is had till WARM is 49, and never again.
-        e.told("tartar; father warm 99; couple 6 had 0; fire 20").play("warm(0,50,49)==98 warm(0,50,50)==99 warm(0,60,50)==99 "
-            + "warm(0,60,51)=NONE");
+        e.told("tartar; father warm 99; couple 6 had 0; fire 20").play("warm(0,50,49)==98 warm(0,50,50)==99 "
+            + "warm(0,60,50)==99 warm(0,60,51)=NONE");
     }
 
     static void promise20_0OfTimesIs0Warm(Edges e) {
@@ -100,15 +102,15 @@ public final class BestEdgeTest {
     }
 
     static void promise20_hadIsHeldTo9999(Edges e) {
-        e.told(BEHIND_AN_UNCLE).play("set(1,4,9999) warm(1,60,9999)==0 set(1,4,9998) warm(1,60,9999)==50 set(1,4,9938) "
-            + "warm(1,60,9999)=NONE set(1,4,9939) warm(1,60,9999)==50");
+        e.told(BEHIND_AN_UNCLE).play("set(1,4,9999) warm(1,60,9999)==0 set(1,4,9998) warm(1,60,9999)==50 "
+            + "set(1,4,9938) warm(1,60,9999)=NONE set(1,4,9939) warm(1,60,9999)==50");
     }
 
     // ---- sit
 
     static void promise21_nIs1To60(Edges e) {
-        e.told(BEHIND_AN_UNCLE).play("sit(1)==0 sit(60)==0 sit(0)=BEYOND sit(61)=BEYOND sit(-1)=BEYOND sit(2147483647)=BEYOND "
-            + "sit(-2147483648)=BEYOND");
+        e.told(BEHIND_AN_UNCLE).play("sit(1)==0 sit(60)==0 sit(0)=BEYOND sit(61)=BEYOND sit(-1)=BEYOND "
+            + "sit(2147483647)=BEYOND sit(-2147483648)=BEYOND");
     }
 
     static void promise21_noneWhereNobodyIsThere(Edges e) {
@@ -157,7 +159,8 @@ public final class BestEdgeTest {
     }
 
     static void promise22_beyondNoSuchCouple(Edges e) {
-        e.some().play("loud(1,1) loud(2,1)=BEYOND loud(-1,1)=BEYOND loud(2147483647,1)=BEYOND loud(-2147483648,1)=BEYOND");
+        e.some().play("loud(1,1) loud(2,1)=BEYOND loud(-1,1)=BEYOND loud(2147483647,1)=BEYOND "
+            + "loud(-2147483648,1)=BEYOND");
         e.told("inlaw").play("loud(0,1)=BEYOND");
         e.crowd(0, 8).play("loud(7,1)==0 loud(8,1)=BEYOND");
     }
@@ -169,7 +172,7 @@ public final class BestEdgeTest {
     }
 
     static void promise22_loud9IsTheLast(Edges e) {
-        // The TARTAR, LAST, CHARMS by 12 till WARM is 49: with LOUD 9, and with that alone, this is so by the 2nd SUNDAY;
+        // The TARTAR, LAST, CHARMS by 12 till WARM is 49: with LOUD 9, and that alone, this is so by the 2nd SUNDAY;
         // then they have the FATHER, who CHARMS by 12 from LOUD 8 on.
         e.told("tartar warm 51; father warm 80; couple 0 had 0; fire 20").play("loud(0,2)==9 loud(0,1)==0");
     }
@@ -178,6 +181,8 @@ public final class BestEdgeTest {
         e.told("couple 5").play("give(0,1,-999) loud(0,60)==0");
         // From LOUD 2 on they have the FATHER.
         e.told("uncle; father; couple 0").play("give(0,1,-999) loud(0,1)==2");
+        // From LOUD 4 on they have the FATHER, who DOES 2, and then go home: -998; else it is -999.
+        e.told("father warm 20; uncle; couple 0; couple 5; couple 5; fire 9").play("give(0,1,-999) loud(0,2)==4");
     }
 
     static void promise22_wellIsHeldTo999(Edges e) {
@@ -187,8 +192,8 @@ public final class BestEdgeTest {
     // ---- stoke
 
     static void promise23_nIs1To60(Edges e) {
-        e.told("father").play("stoke(1)==20 stoke(60)==20 stoke(0)=BEYOND stoke(61)=BEYOND stoke(-1)=BEYOND stoke(2147483647)=BEYOND "
-            + "stoke(-2147483648)=BEYOND");
+        e.told("father").play("stoke(1)==20 stoke(60)==20 stoke(0)=BEYOND stoke(61)=BEYOND stoke(-1)=BEYOND "
+            + "stoke(2147483647)=BEYOND stoke(-2147483648)=BEYOND");
     }
 
     static void promise23_nobodyIsThere(Edges e) {
@@ -244,7 +249,8 @@ public final class BestEdgeTest {
     }
 
     static void promise24_aloneIsHeldTo9999(Edges e) {
-        e.told("inlaw; inlaw sat").play("set(0,3,9950) set(1,3,9999) lonely(0)==1 lonely(48)==1 lonely(49)==0 lonely(100)==0");
+        e.told("inlaw; inlaw sat").play("set(0,3,9950) set(1,3,9999) lonely(0)==1 lonely(48)==1 lonely(49)==0 "
+            + "lonely(100)==0");
     }
 
     static void promise24_thoseSatOnAreAloneToo(Edges e) {

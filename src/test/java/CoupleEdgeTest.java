@@ -84,19 +84,20 @@ public final class CoupleEdgeTest {
     // ---- give
 
     static void promise12_loudIs0To9(Edges e) {
-        e.some().play("give(1,0,0)=8 coupleOf(1,0)=0 give(1,0,9)=0 coupleOf(1,0)=9 give(1,0,10)=BEYOND give(1,0,-1)=BEYOND "
-            + "give(1,0,2147483647)=BEYOND give(1,0,-2147483648)=BEYOND coupleOf(1,0)=9");
+        e.some().play("give(1,0,0)=8 coupleOf(1,0)=0 give(1,0,9)=0 coupleOf(1,0)=9 give(1,0,10)=BEYOND "
+            + "give(1,0,-1)=BEYOND give(1,0,2147483647)=BEYOND give(1,0,-2147483648)=BEYOND coupleOf(1,0)=9");
     }
 
     static void promise12_wellIsMinus999To999(Edges e) {
         e.some().play("give(0,1,999)=-77 coupleOf(0,1)=10999 give(0,1,1000)=BEYOND give(0,1,-1000)=BEYOND "
-            + "give(0,1,2147483647)=BEYOND give(0,1,-2147483648)=BEYOND give(0,1,-999)=999 coupleOf(0,1)=9001 give(0,1,0)=-999");
+            + "give(0,1,2147483647)=BEYOND give(0,1,-2147483648)=BEYOND give(0,1,-999)=999 coupleOf(0,1)=9001 "
+            + "give(0,1,0)=-999");
     }
 
     static void promise12_lastIsMinus1OrOneThatIsThere(Edges e) {
         e.told("inlaw; uncle sat; couple 5").play("give(0,2,0)=-1 give(0,2,1)=0 coupleOf(0,2)=1 give(0,2,2)=BEYOND "
-            + "give(0,2,-2)=BEYOND give(0,2,2147483647)=BEYOND give(0,2,-2147483648)=BEYOND coupleOf(0,2)=1 give(0,2,-1)=1 "
-            + "coupleOf(0,2)=-1");
+            + "give(0,2,-2)=BEYOND give(0,2,2147483647)=BEYOND give(0,2,-2147483648)=BEYOND coupleOf(0,2)=1 "
+            + "give(0,2,-1)=1 coupleOf(0,2)=-1");
         e.crowd(8, 1).play("give(0,2,7)=-1 give(0,2,8)=BEYOND");
     }
 
@@ -105,7 +106,8 @@ public final class CoupleEdgeTest {
     }
 
     static void promise12_beyondAnotherWhat(Edges e) {
-        e.some().play("give(0,3,0)=BEYOND give(0,-1,0)=BEYOND give(0,2147483647,0)=BEYOND give(0,-2147483648,0)=BEYOND");
+        e.some().play("give(0,3,0)=BEYOND give(0,-1,0)=BEYOND give(0,2147483647,0)=BEYOND "
+            + "give(0,-2147483648,0)=BEYOND");
     }
 
     static void promise12_beyondNoSuchCouple(Edges e) {

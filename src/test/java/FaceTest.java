@@ -27,10 +27,18 @@ public final class FaceTest {
         "throw", "throws", "try", "catch", "synchronized", "assert", "->", "::", "Exact", "Object",
         "hashCode", "toString", "System\\.out", "Random", "Thread"};
 
+    private static final Set<String> LIBRARY = Set.of("Math.max", "Math.min", "Arrays.fill", "System.arraycopy");
+
+    /** The first line of a method or a constructor, by how far it stands in. */
+    private static final Pattern METHOD =
+        Pattern.compile(" {4,8}(?!if|for|while|switch)\\w[\\w \\[\\]]*\\([\\w ,\\[\\]]*\\) \\{");
+
     public static void main(String[] args) throws Exception {
         Check check = new Check();
         face(check);
         language(check);
+        sizes(check);
+        newOnesInConstructorsOnly(check);
         check.end();
     }
 
@@ -79,9 +87,15 @@ public final class FaceTest {
         check.due("fields of " + c.getName(), fields <= 20 ? 1 : 0, 1);
     }
 
-    private static void language(Check check) throws Exception {
+    /** The file without its comments, its lines kept. */
+    private static String code() throws Exception {
         String source = Files.readString(Path.of("src/main/java/PooledInlaws.java"));
-        String code = source.replaceAll("(?s)/\\*.*?\\*/", "").replaceAll("//.*", "");
+        return source.replaceAll("/\\*\\*.*?\\*/", "").replaceAll("(?m)^ *(/\\*\\*|\\* |\\*/).*$", "")
+            .replaceAll("//.*", "");
+    }
+
+    private static void language(Check check) throws Exception {
+        String code = code();
         for (String word : RULED_OUT) {
             boolean isName = Character.isLetter(word.charAt(0));
             Matcher m = Pattern.compile(isName ? "\\b" + word + "\\b" : word).matcher(code);
@@ -92,5 +106,38 @@ public final class FaceTest {
             check.due("an import", imports.group(), "import java.util.Arrays;");
         }
         check.due("package line", Pattern.compile("(?m)^package").matcher(code).find() ? 1 : 0, 0);
+        String owners = "Math|Arrays|System|Integer|Long|String|StringBuilder|List";
+        Matcher library = Pattern.compile("\\b(" + owners + ")\\.\\w+").matcher(code);
+        while (library.find()) {
+            check.due(library.group() + " of the library", LIBRARY.contains(library.group()) ? 1 : 0, 1);
+        }
+        check.due("signs beyond 127", code.chars().anyMatch(c -> c > 127) ? 1 : 0, 0);
+    }
+
+    /** Rule 11: methods of some sixty lines, some twelve classes. */
+    private static void sizes(Check check) throws Exception {
+        int start = 0;
+        int classes = 0;
+        String[] lines = code().split("\n");
+        for (int i = 0; i < lines.length; i++) {
+            classes += lines[i].matches(".*\\bclass \\w+ \\{") ? 1 : 0;
+            if (METHOD.matcher(lines[i]).matches()) {
+                start = i;
+            } else if (lines[i].matches(" {4,8}\\}") && i - start > 60) {
+                check.due("lines of the method ending at line " + (i + 1), i - start, 60);
+            }
+            start = lines[i].matches(" {4,8}\\}") ? i : start;
+        }
+        check.due("twelve classes at most", classes <= 12 ? 1 : 0, 1);
+    }
+
+    /** Rule 12, and the one room for all calls: rows are made once, and no call makes an object. */
+    private static void newOnesInConstructorsOnly(Check check) throws Exception {
+        String method = "";
+        for (String line : code().split("\n")) {
+            method = METHOD.matcher(line).matches() ? line.trim() : method;
+            boolean isConstructor = method.matches("(public )?(PooledInlaws|Hall|Tape|Sheet)\\(\\) \\{");
+            check.due("made in " + method + " " + line.trim(), line.contains("new ") && !isConstructor ? 1 : 0, 0);
+        }
     }
 }

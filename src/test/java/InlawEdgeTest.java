@@ -111,7 +111,8 @@ public final class InlawEdgeTest {
     }
 
     static void promise06_charmsMayBeBelow0(Edges e) {
-        e.told("tartar warm 9; couple 4").play("with(0,0,0)==-2 set(0,1,0) with(0,0,0)==-2 set(0,1,10) with(0,0,0)==-1");
+        e.told("tartar warm 9; couple 4").play("with(0,0,0)==-2 set(0,1,0) with(0,0,0)==-2 set(0,1,10) "
+            + "with(0,0,0)==-1");
     }
 
     static void promise06_aBlesserCharmsByFireByFiveCut(Edges e) {
@@ -141,13 +142,15 @@ public final class InlawEdgeTest {
 
     static void promise06_aMotherAndATartarThawByLoudByThreeCut(Edges e) {
         e.told("mother; tartar; couple 0").play("with(0,0,2)==103 with(1,0,2)==101 give(0,0,2) with(0,0,2)==103 "
-            + "give(0,0,3) with(0,0,2)==102 with(1,0,2)==100 give(0,0,5) with(0,0,2)==102 give(0,0,6) with(0,0,2)==101 "
-            + "with(1,0,2)==99 give(0,0,8) with(0,0,2)==101 give(0,0,9) with(0,0,2)==100 with(1,0,2)==98");
+            + "give(0,0,3) with(0,0,2)==102 with(1,0,2)==100 give(0,0,5) with(0,0,2)==102 give(0,0,6) "
+            + "with(0,0,2)==101 with(1,0,2)==99 give(0,0,8) with(0,0,2)==101 give(0,0,9) with(0,0,2)==100 "
+            + "with(1,0,2)==98");
     }
 
     static void promise06_theOthersThawTheSameAlways(Edges e) {
-        e.told("inlaw; father; uncle; blesser; couple 0; fire 0").play("with(0,0,2)==103 with(1,0,2)==103 with(2,0,2)==101 "
-            + "with(3,0,2)==106 give(0,0,9) fire(20) with(0,0,2)==103 with(1,0,2)==103 with(2,0,2)==101 with(3,0,2)==106");
+        e.told("inlaw; father; uncle; blesser; couple 0; fire 0").play("with(0,0,2)==103 with(1,0,2)==103 "
+            + "with(2,0,2)==101 with(3,0,2)==106 give(0,0,9) fire(20) with(0,0,2)==103 with(1,0,2)==103 "
+            + "with(2,0,2)==101 with(3,0,2)==106");
     }
 
     // ---- set
@@ -158,18 +161,18 @@ public final class InlawEdgeTest {
     }
 
     static void promise07_satOnIs0Or1(Edges e) {
-        e.some().play("set(2,2,1)=0 of(2,2)=1 set(2,2,2)=BEYOND set(2,2,-1)=BEYOND set(2,2,2147483647)=BEYOND of(2,2)=1 "
-            + "set(2,2,0)=1 of(2,2)=0");
+        e.some().play("set(2,2,1)=0 of(2,2)=1 set(2,2,2)=BEYOND set(2,2,-1)=BEYOND set(2,2,2147483647)=BEYOND "
+            + "of(2,2)=1 set(2,2,0)=1 of(2,2)=0");
     }
 
     static void promise07_aloneIs0To9999(Edges e) {
-        e.some().play("set(0,3,9999)=8 of(0,3)=9999 set(0,3,10000)=BEYOND set(0,3,-1)=BEYOND set(0,3,2147483647)=BEYOND "
-            + "set(0,3,-2147483648)=BEYOND of(0,3)=9999 set(0,3,0)=9999 of(0,3)=0");
+        e.some().play("set(0,3,9999)=8 of(0,3)=9999 set(0,3,10000)=BEYOND set(0,3,-1)=BEYOND "
+            + "set(0,3,2147483647)=BEYOND set(0,3,-2147483648)=BEYOND of(0,3)=9999 set(0,3,0)=9999 of(0,3)=0");
     }
 
     static void promise07_hadIs0To9999(Edges e) {
-        e.some().play("set(1,4,9999)=7 of(1,4)=9999 set(1,4,10000)=BEYOND set(1,4,-1)=BEYOND set(1,4,2147483647)=BEYOND "
-            + "set(1,4,-2147483648)=BEYOND of(1,4)=9999 set(1,4,0)=9999 of(1,4)=0");
+        e.some().play("set(1,4,9999)=7 of(1,4)=9999 set(1,4,10000)=BEYOND set(1,4,-1)=BEYOND "
+            + "set(1,4,2147483647)=BEYOND set(1,4,-2147483648)=BEYOND of(1,4)=9999 set(1,4,0)=9999 of(1,4)=0");
     }
 
     static void promise07_beyondAnotherWhat(Edges e) {
@@ -196,11 +199,13 @@ public final class InlawEdgeTest {
     }
 
     static void promise08_beyondNoSuchKind(Edges e) {
-        e.some().play("turn(0,6)=BEYOND turn(0,-1)=BEYOND turn(0,2147483647)=BEYOND turn(0,-2147483648)=BEYOND of(0,0)=1");
+        e.some().play("turn(0,6)=BEYOND turn(0,-1)=BEYOND turn(0,2147483647)=BEYOND turn(0,-2147483648)=BEYOND "
+            + "of(0,0)=1");
     }
 
     static void promise08_beyondNoSuchOne(Edges e) {
-        e.some().play("turn(2,0)=3 turn(3,0)=BEYOND turn(-1,0)=BEYOND turn(2147483647,0)=BEYOND turn(-2147483648,0)=BEYOND");
+        e.some().play("turn(2,0)=3 turn(3,0)=BEYOND turn(-1,0)=BEYOND turn(2147483647,0)=BEYOND "
+            + "turn(-2147483648,0)=BEYOND");
         e.made().play("turn(0,0)=BEYOND");
         e.crowd(8, 0).play("turn(7,4)=0 turn(8,4)=BEYOND");
     }
@@ -221,7 +226,8 @@ public final class InlawEdgeTest {
     static void promise09_kindOfNoneThatIsBesideOrUnder(Edges e) {
         e.told("inlaw; mother; father; uncle; tartar; blesser")
             .play("as(0,1)=KIND as(0,2)=KIND as(0,3)=KIND as(0,4)=KIND as(0,5)=KIND")
-            .play("as(1,2)=KIND as(1,3)=KIND as(1,4)=KIND as(1,5)=KIND as(2,1)=KIND as(2,3)=KIND as(2,4)=KIND as(2,5)=KIND")
+            .play("as(1,2)=KIND as(1,3)=KIND as(1,4)=KIND as(1,5)=KIND as(2,1)=KIND as(2,3)=KIND as(2,4)=KIND "
+            + "as(2,5)=KIND")
             .play("as(3,1)=KIND as(3,2)=KIND as(3,4)=KIND as(3,5)=KIND as(4,2)=KIND as(4,3)=KIND as(4,5)=KIND")
             .play("as(5,1)=KIND as(5,3)=KIND as(5,4)=KIND");
     }

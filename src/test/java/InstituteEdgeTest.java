@@ -31,7 +31,8 @@ public final class InstituteEdgeTest {
 
     static void promise01_nothingOfAnotherObject(Edges e) {
         e.some().play("inlaw(6)=BEYOND");
-        e.made().play("count(0)==0 count(1)==0 count(2)==0 now(0)==0 now(1)==10 lays(0)=MISSING undo()=NONE status(-1)=2");
+        e.made().play("count(0)==0 count(1)==0 count(2)==0 now(0)==0 now(1)==10 lays(0)=MISSING undo()=NONE "
+            + "status(-1)=2");
     }
 
     static void promise02_fireIs0To20(Edges e) {

@@ -28,8 +28,9 @@ public final class SundayEdgeTest {
     }
 
     static void promise13_stateWhereSundayWouldBe10000(Edges e) {
-        e.told("uncle; couple 5").play(Edges.sixties(166) + "sundays(40)=STATE now(0)=9960 sundays(38) sundays(2)=STATE now(0)=9998 "
-            + "sundays(1)=99 now(0)=9999 sundays(1)=STATE now(0)=9999");
+        e.told("uncle; couple 5")
+            .play(Edges.sixties(166) + "sundays(40)=STATE now(0)=9960 sundays(38) sundays(2)=STATE now(0)=9998")
+            .play("sundays(1)=99 now(0)=9999 sundays(1)=STATE now(0)=9999");
     }
 
     static void promise13_stateFarAbove(Edges e) {
@@ -37,8 +38,8 @@ public final class SundayEdgeTest {
     }
 
     static void promise13_beyondIsAskedAheadOfState(Edges e) {
-        e.made().play(Edges.sixties(166) + "sundays(39) sundays(0)=BEYOND sundays(61)=BEYOND sundays(-2147483648)=BEYOND "
-            + "sundays(2147483647)=BEYOND sundays(1)=STATE sundays(60)=STATE");
+        e.made().play(Edges.sixties(166) + "sundays(39) sundays(0)=BEYOND sundays(61)=BEYOND")
+            .play("sundays(-2147483648)=BEYOND sundays(2147483647)=BEYOND sundays(1)=STATE sundays(60)=STATE");
     }
 
     static void promise13_sundaysAreLikeAsManyOfOne(Edges e) {
@@ -66,13 +67,15 @@ public final class SundayEdgeTest {
     }
 
     static void promise14_beyondNoSuchCouple(Edges e) {
-        e.some().play("on(1,0,0) on(2,0,0)=BEYOND on(-1,0,0)=BEYOND on(2147483647,0,0)=BEYOND on(-2147483648,0,0)=BEYOND");
+        e.some().play("on(1,0,0) on(2,0,0)=BEYOND on(-1,0,0)=BEYOND on(2147483647,0,0)=BEYOND "
+            + "on(-2147483648,0,0)=BEYOND");
         e.told("inlaw").play("on(0,0,0)=BEYOND");
         e.crowd(8, 8).play("on(7,0,0)==0 on(8,0,0)=BEYOND");
     }
 
     static void promise14_wellIsHeldAhead(Edges e) {
-        e.told("inlaw; couple 5").play("give(0,1,800) on(0,99,0)==998 on(0,100,0)==999 sundays(1) on(0,99,0)==999 on(0,100,0)==999");
+        e.told("inlaw; couple 5").play("give(0,1,800) on(0,99,0)==998 on(0,100,0)==999 sundays(1) on(0,99,0)==999 "
+            + "on(0,100,0)==999");
         e.told("couple 5").play("give(0,1,-900) on(0,98,0)==-998 on(0,99,0)==-999 on(0,100,0)==-999");
     }
 
@@ -83,12 +86,13 @@ public final class SundayEdgeTest {
     // ---- then
 
     static void promise15_nIs0To100(Edges e) {
-        e.told("inlaw; inlaw; couple 5").play("then(0,0,0)==40 then(0,0,1)==0 then(0,0,2)==0 then(0,1,0)==43 then(1,1,0)==38 "
-            + "then(0,99,2)==99 then(0,100,2)==100 then(1,99,1)==99 then(1,100,1)==100");
+        e.told("inlaw; inlaw; couple 5").play("then(0,0,0)==40 then(0,0,1)==0 then(0,0,2)==0 then(0,1,0)==43 "
+            + "then(1,1,0)==38 then(0,99,2)==99 then(0,100,2)==100 then(1,99,1)==99 then(1,100,1)==100");
     }
 
     static void promise15_beyondAnotherN(Edges e) {
-        e.some().play("then(0,-1,0)=BEYOND then(0,101,0)=BEYOND then(0,2147483647,1)=BEYOND then(0,-2147483648,2)=BEYOND");
+        e.some().play("then(0,-1,0)=BEYOND then(0,101,0)=BEYOND then(0,2147483647,1)=BEYOND "
+            + "then(0,-2147483648,2)=BEYOND");
     }
 
     static void promise15_whatIs0To2(Edges e) {
@@ -105,18 +109,20 @@ public final class SundayEdgeTest {
 
     static void promise15_allIsHeldAhead(Edges e) {
         e.told("inlaw; mother; couple 5").play("set(0,4,9900) set(1,3,9900) then(0,98,2)==9998 then(0,99,2)==9999 "
-            + "then(0,100,2)==9999 then(1,98,1)==9998 then(1,99,1)==9999 then(1,100,1)==9999 then(0,100,0)==99 then(1,9,0)==4 "
-            + "then(1,10,0)==0 then(1,11,0)==0 then(1,100,0)==0");
+            + "then(0,100,2)==9999 then(1,98,1)==9998 then(1,99,1)==9999 then(1,100,1)==9999 then(0,100,0)==99 "
+            + "then(1,9,0)==4 then(1,10,0)==0 then(1,11,0)==0 then(1,100,0)==0");
     }
 
     // ---- meets
 
     static void promise16_1IsThisSunday(Edges e) {
-        e.told("inlaw; uncle warm 0; couple 5; couple 5").play("meets(0,0)==1 meets(1,1)==1 meets(0,1)==2 meets(1,0)==2");
+        e.told("inlaw; uncle warm 0; couple 5; couple 5").play("meets(0,0)==1 meets(1,1)==1 meets(0,1)==2 "
+            + "meets(1,0)==2");
     }
 
     static void promise16_the100thIsTheLast(Edges e) {
-        String text = "mother warm 95; tartar warm 77; uncle warm 55 sat; couple 0; couple 2; couple 0; couple 9; fire 4";
+        String text = "mother warm 95; tartar warm 77; uncle warm 55 sat; "
+            + "couple 0; couple 2; couple 0; couple 9; fire 4";
         e.due("the first, one by one", firstMeeting(text, 3, 0), 100);
         e.told(text).play("meets(3,0)==100 sundays(1) meets(3,0)==99");
         e.due("the first of another, one by one", firstMeeting(text, 1, 0), 101);
@@ -142,7 +148,8 @@ public final class SundayEdgeTest {
     }
 
     static void promise16_beyondNoSuchCouple(Edges e) {
-        e.some().play("meets(1,1) meets(2,1)=BEYOND meets(-1,1)=BEYOND meets(2147483647,1)=BEYOND meets(-2147483648,1)=BEYOND");
+        e.some().play("meets(1,1) meets(2,1)=BEYOND meets(-1,1)=BEYOND meets(2147483647,1)=BEYOND "
+            + "meets(-2147483648,1)=BEYOND");
         e.told("inlaw").play("meets(0,0)=BEYOND");
         e.crowd(8, 8).play("meets(7,7)==1 meets(8,7)=BEYOND");
     }
@@ -166,7 +173,8 @@ public final class SundayEdgeTest {
     }
 
     static void promise17_100IsTheLast(Edges e) {
-        e.told("inlaw; couple 5").play("well(0,198)==99 well(0,199)==100 well(0,200)==100 well(0,201)=NONE well(0,999)=NONE");
+        e.told("inlaw; couple 5").play("well(0,198)==99 well(0,199)==100 well(0,200)==100 well(0,201)=NONE "
+            + "well(0,999)=NONE");
     }
 
     static void promise17_vIsMinus999To999(Edges e) {
@@ -193,7 +201,8 @@ public final class SundayEdgeTest {
     }
 
     static void promise18_justAsItGets0(Edges e) {
-        e.told("inlaw warm 1; inlaw warm 2; inlaw warm 3; mother warm 99").play("cold(0)==1 cold(1)==1 cold(2)==2 cold(3)==25");
+        e.told("inlaw warm 1; inlaw warm 2; inlaw warm 3; mother warm 99").play("cold(0)==1 cold(1)==1 cold(2)==2 "
+            + "cold(3)==25");
     }
 
     static void promise18_99ByAFire(Edges e) {

@@ -1,4 +1,4 @@
-/** Each sentence of the terms that names an edge; those of THE TEXT stand with promise 27, the bounds with set and give. */
+/** Each sentence of the terms that names an edge; THE TEXT stands with promise 27, bounds with set and give. */
 public final class TermsEdgeTest {
     public static void main(String[] args) throws Exception {
         Edges.run(TermsEdgeTest.class);
@@ -21,8 +21,9 @@ public final class TermsEdgeTest {
 
     static void terms_eachIsToldInTheOrderAsked(Edges e) {
         e.crowd(8, 8).play("inlaw(6)=BEYOND couple(10)=BEYOND as(8,1)=BEYOND meets(8,0)=BEYOND sit(0)=BEYOND "
-            + "sheet(4,8,-1)=BEYOND sheet(0,32,-1)=BEYOND sheet(0,0,-1)=SIZE write(4,-1,0)=BEYOND write(0,-1,0)=MISSING "
-            + "copy(4,-1,0,-1,-1)=BEYOND copy(0,-1,1,-1,-1)=MISSING book(4,8)=BEYOND book(0,8)=MISSING read(0,8,8)=MISSING");
+            + "sheet(4,8,-1)=BEYOND sheet(0,32,-1)=BEYOND sheet(0,0,-1)=SIZE write(4,-1,0)=BEYOND "
+            + "write(0,-1,0)=MISSING copy(4,-1,0,-1,-1)=BEYOND copy(0,-1,1,-1,-1)=MISSING book(4,8)=BEYOND "
+            + "book(0,8)=MISSING read(0,8,8)=MISSING");
         e.made().play("sit(0)=BEYOND sit(1)=NONE lonely(101)=BEYOND lonely(100)=NONE");
     }
 
@@ -60,7 +61,8 @@ public final class TermsEdgeTest {
     }
 
     static void terms_theLastFindsNobodyFree(Edges e) {
-        e.told("inlaw; couple 5; couple 5").play("sundays(1)=43").all("1 10 1 0 10001 43 / 0 43 0 0 1 | 5 10002 0 | 5 9999 -1 # 0");
+        e.told("inlaw; couple 5; couple 5").play("sundays(1)=43")
+            .all("1 10 1 0 10001 43 / 0 43 0 0 1 | 5 10002 0 | 5 9999 -1 # 0");
     }
 
     static void terms_theNextSundayAnotherIsFirst(Edges e) {
@@ -70,7 +72,8 @@ public final class TermsEdgeTest {
 
     static void terms_behindTheLastComes0(Edges e) {
         // On SUNDAY 2 couple 2 is first, then 0; 1 is last, and both UNCLES are taken.
-        e.told("uncle; uncle; couple 5; couple 5; couple 5").play("sundays(2) coupleOf(2,3)==0 coupleOf(0,3)==1 coupleOf(1,3)==-1");
+        e.told("uncle; uncle; couple 5; couple 5; couple 5").play("sundays(2) coupleOf(2,3)==0 coupleOf(0,3)==1 "
+            + "coupleOf(1,3)==-1");
     }
 
     static void terms_eightCouplesAndEightInlaws(Edges e) {
@@ -92,7 +95,8 @@ public final class TermsEdgeTest {
     }
 
     static void terms_oneThatCharmsBelow0IsHadAllTheSame(Edges e) {
-        e.told("tartar warm 0; couple 5").play("with(0,0,0)==-2 coupleOf(0,3)==0 sundays(1)=0 of(0,4)=1 coupleOf(0,1)=9996");
+        e.told("tartar warm 0; couple 5").play("with(0,0,0)==-2 coupleOf(0,3)==0 sundays(1)=0 of(0,4)=1 "
+            + "coupleOf(0,1)=9996");
         e.told("tartar warm 0; tartar warm 10; couple 5").play("coupleOf(0,3)==1");
     }
 
@@ -104,7 +108,8 @@ public final class TermsEdgeTest {
     }
 
     static void terms_chillsGoByTheFireAndAreOfThoseAloneOnly(Edges e) {
-        e.told("father; father; couple 0; fire 10").play("sundays(1)=82").all("1 10 0 0 10003 82 / 2 43 0 0 1 / 2 39 0 1 0 | 0 10003 0 # 0");
+        e.told("father; father; couple 0; fire 10").play("sundays(1)=82")
+            .all("1 10 0 0 10003 82 / 2 43 0 0 1 / 2 39 0 1 0 | 0 10003 0 # 0");
     }
 
     static void terms_wellIsHeldTo999(Edges e) {
@@ -113,17 +118,18 @@ public final class TermsEdgeTest {
     }
 
     static void terms_wellIsHeldToMinus999(Edges e) {
-        e.told("tartar warm 0; couple 5").play("give(0,1,-994) sundays(1) coupleOf(0,1)=9002 sundays(1) coupleOf(0,1)=9001 "
-            + "sundays(1) coupleOf(0,1)=9001 give(0,1,-995) sundays(1) coupleOf(0,1)=9001");
+        e.told("tartar warm 0; couple 5").play("give(0,1,-994) sundays(1) coupleOf(0,1)=9002 sundays(1) "
+            + "coupleOf(0,1)=9001 sundays(1) coupleOf(0,1)=9001 give(0,1,-995) sundays(1) coupleOf(0,1)=9001");
     }
 
     static void terms_wellOfThoseThatGoHomeIsHeldToMinus999(Edges e) {
-        e.told("couple 5").play("give(0,1,-997) sundays(1) coupleOf(0,1)=9002 sundays(1) coupleOf(0,1)=9001 sundays(1) "
-            + "coupleOf(0,1)=9001 sundays(60) coupleOf(0,1)=9001");
+        e.told("couple 5").play("give(0,1,-997) sundays(1) coupleOf(0,1)=9002 sundays(1) coupleOf(0,1)=9001 "
+            + "sundays(1) coupleOf(0,1)=9001 sundays(60) coupleOf(0,1)=9001");
     }
 
     static void terms_hadIsHeldTo9999(Edges e) {
-        e.told("inlaw; couple 5").play("set(0,4,9998) sundays(1) of(0,4)=9999 sundays(1) of(0,4)=9999 sundays(60) of(0,4)=9999");
+        e.told("inlaw; couple 5").play("set(0,4,9998) sundays(1) of(0,4)=9999 sundays(1) of(0,4)=9999 sundays(60) "
+            + "of(0,4)=9999");
     }
 
     static void terms_aloneIsHeldTo9999(Edges e) {
@@ -131,8 +137,10 @@ public final class TermsEdgeTest {
     }
 
     static void terms_thawIsHeldTo99(Edges e) {
-        e.told("inlaw warm 96; couple 5").play("sundays(1)=99 sundays(1)=99 set(0,1,97) sundays(1)=99 set(0,1,95) sundays(1)=98");
-        e.told("blesser warm 93; couple 5").play("sundays(1)=99 sundays(1)=99 set(0,1,94) sundays(1)=99 set(0,1,92) sundays(1)=98");
+        e.told("inlaw warm 96; couple 5").play("sundays(1)=99 sundays(1)=99 set(0,1,97) sundays(1)=99 set(0,1,95) "
+            + "sundays(1)=98");
+        e.told("blesser warm 93; couple 5").play("sundays(1)=99 sundays(1)=99 set(0,1,94) sundays(1)=99 set(0,1,92) "
+            + "sundays(1)=98");
     }
 
     static void terms_thawIsHeldTo0(Edges e) {
@@ -142,7 +150,8 @@ public final class TermsEdgeTest {
 
     static void terms_chillIsHeldTo0(Edges e) {
         e.told("inlaw warm 3").play("sundays(1)=1 sundays(1)=0 sundays(1)=0 set(0,1,2) sundays(1)=0");
-        e.told("mother warm 5").play("sundays(1)=1 sundays(1)=0 sundays(1)=0 set(0,1,4) sundays(1)=0 set(0,1,3) sundays(1)=0");
+        e.told("mother warm 5").play("sundays(1)=1 sundays(1)=0 sundays(1)=0 set(0,1,4) sundays(1)=0 set(0,1,3) "
+            + "sundays(1)=0");
     }
 
     static void terms_warm99WithoutAChillStays(Edges e) {
@@ -153,14 +162,15 @@ public final class TermsEdgeTest {
     // ---- ahead
 
     static void terms_aheadNothingChanges(Edges e) {
-        e.told("uncle; couple 5").play("sheet(0,16,40) image() on(0,100,0)==0 on(0,100,1)==0 then(0,100,0)==99 then(0,100,1)==0 "
-            + "then(0,100,2)==100 meets(0,0)==1 well(0,0)==0 kind(0,60)==0 warm(0,60,60)==0 sit(60)==0 stoke(60)==0 "
-            + "lonely(100)==0 coupleOf(0,3)==0 loud(0,60)==0 cold(0)=NONE read(0,0,0)==10");
+        e.told("uncle; couple 5").play("sheet(0,16,40) image() on(0,100,0)==0 on(0,100,1)==0 then(0,100,0)==99 "
+            + "then(0,100,1)==0 then(0,100,2)==100 meets(0,0)==1 well(0,0)==0 kind(0,60)==0 warm(0,60,60)==0 "
+            + "sit(60)==0 stoke(60)==0 lonely(100)==0 coupleOf(0,3)==0 loud(0,60)==0 cold(0)=NONE read(0,0,0)==10");
     }
 
     static void terms_aheadOf9999TheSundaysGoOn(Edges e) {
         // SUNDAY 9999 is couple 0's of three; AHEAD, 10000 is couple 1's.
-        e.told("uncle; couple 5; couple 5; couple 5").play(Edges.sixties(166) + "sundays(39) meets(0,0)==1 meets(1,0)==2 "
-            + "meets(2,0)==3 sundays(1)=STATE on(0,1,1)==0 then(0,100,2)==9999");
+        e.told("uncle; couple 5; couple 5; couple 5")
+            .play(Edges.sixties(166) + "sundays(39) meets(0,0)==1 meets(1,0)==2 meets(2,0)==3 sundays(1)=STATE")
+            .play("on(0,1,1)==0 then(0,100,2)==9999");
     }
 }

@@ -4,7 +4,11 @@ import java.lang.reflect.Method;
 import java.lang.reflect.Modifier;
 import java.nio.file.Files;
 import java.nio.file.Path;
+import java.util.ArrayList;
 import java.util.Arrays;
+import java.util.HashMap;
+import java.util.List;
+import java.util.Map;
 import java.util.Set;
 import java.util.TreeSet;
 import java.util.regex.Matcher;
@@ -29,6 +33,14 @@ public final class FaceTest {
 
     private static final Set<String> LIBRARY = Set.of("Math.max", "Math.min", "Arrays.fill", "System.arraycopy");
 
+    /** In the document: a member of the face; a heading with the first call that it stands ahead of. */
+    private static final Pattern TOLD = Pattern.compile("(?m)^    (public (?:int |long )?(\\w+)\\([^)]*\\));$");
+    private static final Pattern AHEAD_OF =
+        Pattern.compile("(?m)^Ahead of the calls `(\\w+)`.* the interface says: (---- .*)\\.$");
+    /** In the file: the same. */
+    private static final Pattern STANDS =
+        Pattern.compile("(?m)^    (public (?:int |long )?\\w+\\([^)]*\\)|// ---- .*?)(?: \\{)?$");
+
     /** The first line of a method or a constructor, by how far it stands in. */
     private static final Pattern METHOD =
         Pattern.compile(" {4,8}(?!if|for|while|switch)\\w[\\w \\[\\]]*\\([\\w ,\\[\\]]*\\) \\{");
@@ -36,6 +48,7 @@ public final class FaceTest {
     public static void main(String[] args) throws Exception {
         Check check = new Check();
         face(check);
+        interfaceAsTold(check);
         language(check);
         sizes(check);
         newOnesInConstructorsOnly(check);
@@ -69,6 +82,32 @@ public final class FaceTest {
             check.due(inner.getName() + " static", Modifier.isStatic(inner.getModifiers()) ? 1 : 0, 1);
             privateNames(check, inner, publicNames);
         }
+    }
+
+    /** The document's face and the headings that it tells, in its order, stand so in the file. */
+    private static void interfaceAsTold(Check check) throws Exception {
+        String document = Files.readString(Path.of("../shared/DOC.md"));
+        Map<String, String> headings = new HashMap<>();
+        for (Matcher m = AHEAD_OF.matcher(document); m.find();) {
+            headings.put(m.group(1), "// " + m.group(2));
+        }
+        List<String> told = new ArrayList<>();
+        for (Matcher m = TOLD.matcher(document); m.find();) {
+            if (headings.containsKey(m.group(2))) {
+                told.add(headings.remove(m.group(2)));
+            }
+            told.add(m.group(1));
+        }
+        check.due("headings of no call", headings.toString(), "{}");
+        List<String> stands = new ArrayList<>();
+        String source = Files.readString(Path.of("src/main/java/PooledInlaws.java"));
+        for (Matcher m = STANDS.matcher(source); m.find();) {
+            stands.add(m.group(1));
+        }
+        // Behind the face the file has a heading of its own for what is private.
+        check.due("the interface", String.join("\n", stands.subList(0, Math.min(told.size(), stands.size()))),
+            String.join("\n", told));
+        check.due("calls of the document", told.stream().filter(t -> t.startsWith("public ")).count(), FACE.length + 1);
     }
 
     private static void privateNames(Check check, Class<?> c, Set<String> publicNames) {
